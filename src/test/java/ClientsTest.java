@@ -212,6 +212,8 @@ public final class ClientsTest {
         check.due("45: the cache is sooner", 1, () -> x.soonest(0, 15));
         check.due("45: the cache is sooner", 2, () -> x.soonest(0, 12));
         check.due("45: soonest(0, 9)", 3, () -> x.soonest(0, 9));
+        x.request(0, 0);
+        check.due("45: item 0 in the cache", 0, () -> x.soonest(0, 15));
         // With an index: -3 0 1 2; at 1 item 0 is there, 1 and 2 wait for the index.
         BroadcastCarousel y = Check.with("index 1 1;disk 1;item 5 0 0;item 5 0 0;item 5 0 0;client 1 lru;client 1 lru;");
         y.think(0, 2);

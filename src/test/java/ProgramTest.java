@@ -19,6 +19,7 @@ public final class ProgramTest {
         items();
         gaps();
         access();
+        accessWithEightSegments();
         sums();
         bestNumberOfSegments();
         worstTimes();
@@ -140,6 +141,8 @@ public final class ProgramTest {
         check.due("24: nextTime(0, 17)", 24, () -> x.nextTime(0, 17));
         check.due("24: nextTime(3, 5)", 26, () -> x.nextTime(3, 5));
         check.due("24: nextTime(3, 22005)", 22026, () -> x.nextTime(3, 22005));
+        BroadcastCarousel y = Check.with("index 0 1;disk 6;item 0 0 0;item 0 0 0;");
+        check.due("24: nextTime behind the sixth slot", 12, () -> y.nextTime(0, 11));
         check.due("24: nextTime(4, 999999)", 999999 - 11 + 22 + 7, () -> x.nextTime(4, 999999));
     }
 
@@ -156,6 +159,8 @@ public final class ProgramTest {
         x.setBound(2, 11);
         x.setBound(4, 21);
         check.due("23: violations()", 2 + 16, x::violations);
+        check.due("22: gap of six slots", 2, () -> Check.with("index 0 1;disk 6;item 0 0 0;item 0 0 0;").gap(1));
+        check.due("22: gap over a segment", 5, () -> Check.with("index 1 3;disk 6;item 0 0 0;item 0 0 0;").gap(1));
         check.due("22: gap of one alone", 1, () -> Check.with("index 0 1;disk 4;item 0 0 1;").gap(0));
         check.due("23: violations() of one alone", 0, () -> Check.with("index 0 1;disk 4;item 0 0 1;").violations());
         BroadcastCarousel y = Check.with("index 0 1;disk 1;disk 1;item 0 0 1;item 0 1 2;");
@@ -193,6 +198,18 @@ public final class ProgramTest {
         waits(z, 0, 4, 1, 1);
     }
 
+    /** -3 0 -3 1 and so on, for eight items: a segment before every slot. */
+    private static void accessWithEightSegments() {
+        BroadcastCarousel x = Check.with("index 8 1;disk 1;" + "item 1 0 0;".repeat(8));
+        waits(x, 7, 14, 2, 2);
+        waits(x, 7, 13, 3, 3);
+        waits(x, 7, 15, 1, 1);
+        waits(x, 0, 15, 3, 3);
+        waits(x, 6, 15, 15, 3);
+        waits(x, 0, 2, 16, 2);
+        waits(x, 0, 1, 1, 1);
+    }
+
     private static void waits(BroadcastCarousel x, int item, int time, int access, int tuning) {
         check.due("26: accessTime(" + item + ", " + time + ")", access, () -> x.accessTime(item, time));
         check.due("27: tuningTime(" + item + ", " + time + ")", tuning, () -> x.tuningTime(item, time));
@@ -217,6 +234,12 @@ public final class ProgramTest {
         check.due("29: weight(0)", 40 * 63 + 50 * 90 + 10 * 171, () -> x.weight(0));
         check.due("29: weight(2)", 3 * (40 * 63 + 50 * 90 + 10 * 171), () -> x.weight(2));
         // Sixty rounds of four slots: gaps of 60, 48 and 40, and 13 items with one of 240.
+        BroadcastCarousel z = Check.with("index 0 1;disk 1;item 1 0 0;item 1 0 0;item 1 0 0;");
+        check.due("28: worst at the time 0", 3, () -> z.worstAccess(2));
+        check.due("28: worst behind it", 3, () -> z.worstAccess(0));
+        check.due("28: one alone", 1, () -> Check.with("index 0 1;disk 1;item 1 0 0;").worstAccess(0));
+        check.dueDouble("30: one alone", 1.0, () -> Check.with("index 0 1;disk 1;item 1 0 0;").meanAccess(0));
+        check.dueDouble("25: one alone", 1.0, () -> Check.with("index 0 1;disk 1;item 1 0 0;").share(0));
         BroadcastCarousel y = Check.with("index 0 1;disk 4;disk 5;disk 6;disk 1;"
                 + "item 99 0 0;item 99 1 0;item 99 2 0;" + "item 99 3 0;".repeat(13));
         long sum = 4 * 30 * 61 + 5 * 24 * 49 + 6 * 20 * 41 + 13 * 120 * 241;

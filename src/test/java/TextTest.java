@@ -14,6 +14,7 @@ public final class TextTest {
         firstErrorCounts();
         failedLoadChangesNothing();
         loadStartsAnew();
+        loadOfLessIsLikeNew();
         check.end();
     }
 
@@ -91,6 +92,9 @@ public final class TextTest {
         wrong("another word", "indices 0 1;", 1, 0);
         wrong("a word that goes on", "indexx 0 1;", 1, 0);
         wrong("a word cut short", "inde", 1, 0);
+        wrong("another first letter", "ondex 0 1;", 1, 0);
+        wrong("a word that goes on with a", "index 0 1;diska 1;", 1, 10);
+        wrong("a word that goes on with z", "index 0 1;diskz 1;", 1, 10);
         wrong("disk first", "disk 1;", 1, 0);
         wrong("a capital", "Index 0 1;", 1, 0);
         wrong("a capital behind the keyword", "indeX 0 1;", 1, 0);
@@ -100,9 +104,15 @@ public final class TextTest {
         wrong("a carriage return", "index\r0 1;", 1, 5);
         wrong("a sign", "index -1 1;", 1, 6);
         wrong("a zero byte", "index 0 1;\0", 1, 10);
+        wrong("a zero byte at the end", RIGHT + "\0", 1, 28);
+        wrong("a zero byte behind a blank", RIGHT + " \0 ", 1, 29);
         wrong("a word for a number", "index a 1;", 1, 6);
         wrong("a semicolon for a number", "index 0 ;", 1, 8);
         wrong("a number for a semicolon", "index 0 1 1;", 1, 10);
+        wrong("an unknown byte for a semicolon", "index 0 1:disk 1;item 5 0 0;", 1, 9);
+        wrong("no semicolon", "index 0 1 disk 1;item 5 0 0;", 1, 10);
+        wrong("no last semicolon", "index 0 1;disk 1;item 5 0 0", 1, 27);
+        wrong("two semicolons", "index 0 1;;disk 1;item 5 0 0;", 1, 10);
         wrong("the end for a number", "index 0", 1, 7);
         wrong("the end for a semicolon", "index 0 1 ", 1, 10);
         wrong("the end for a disk", "index 0 1; ", 1, 11);
@@ -114,6 +124,8 @@ public final class TextTest {
         wrong("a fifth disk behind items", "index 0 1;" + "disk 1;".repeat(4) + "item 5 0 0;disk 1;", 1, 49);
         wrong("an item behind clients", RIGHT + "client 1 lru;item 5 0 0;", 1, 41);
         wrong("another policy", RIGHT + "client 1 fifo;", 1, 37);
+        wrong("no policy", RIGHT + "client 1 ;", 1, 37);
+        wrong("two policies", RIGHT + "client 1 lru pix;", 1, 41);
         wrong("a longer policy", RIGHT + "client 1 lrux;", 1, 37);
         wrong("a number for a policy", RIGHT + "client 1 1;", 1, 37);
         wrong("the end for a policy", RIGHT + "client 1", 1, 36);
@@ -207,6 +219,28 @@ public final class TextTest {
         check.outOfRange("4: item 1 is gone", () -> x.itemValue(1, 0));
         check.outOfRange("4: disk 1 is gone", () -> x.frequency(1));
         check.due("4: the clients are gone", 0, x::clientCount);
+    }
+
+    private static void loadOfLessIsLikeNew() {
+        String small = "index 1 2;disk 2;disk 1;item 5 0 3;item 6 1 0;client 1 lfu;";
+        BroadcastCarousel x = Check.with("index 8 4;disk 6;disk 5;disk 4;disk 3;" + "item 0 2 1;".repeat(15)
+                + "item 0 3 9;client 4 lru;client 4 pix;client 4 lru;client 4 lru;");
+        for (int item = 0; item < 9; item++) {
+            x.request(item % 4, item);
+        }
+        Check.put(x, small);
+        check.due("4: load() of less", 2, x::load);
+        check.dueText("4: all is as in a new object", Fingerprint.of(Check.with(small)), Fingerprint.of(x));
+        for (int t = 0; t < 12; t++) {
+            int time = t;
+            BroadcastCarousel fresh = Check.with(small);
+            check.due("4: nextTime()", fresh.nextTime(0, t), () -> x.nextTime(0, time));
+            check.due("4: accessTime()", fresh.accessTime(1, t), () -> x.accessTime(1, time));
+        }
+        check.due("4: leastWorth()", 0, x::leastWorth);
+        check.due("4: emptySlots()", 1, x::emptySlots);
+        check.due("4: itemsOf(1)", 2, () -> x.itemsOf(1));
+        check.due("4: tierSize(2, 1)", 1, () -> x.tierSize(2, 1));
     }
 
     private static void right(String what, String text, int items) {

@@ -7,12 +7,14 @@ public final class TiersTest {
         tiers();
         tiersWithTies();
         tiersByMean();
+        manyTiers();
         tiersKeepTheIndex();
         tooFewItems();
         applying();
         repairs();
         repairsInOrder();
         repairsOnTheWay();
+        repairsToTheFastest();
         bestDisks();
         check.end();
     }
@@ -84,6 +86,25 @@ public final class TiersTest {
         // (1, 3): 0 1 0 2 0 3: 3 * 3 * 9 + 21 * 11 = 312 of 6 is 52.
         // (2, 2): three rounds 0 1 x: 0 1 2 0 1 3 0 1 -: 2 * 18 * 9 + 45 * 2 = 414 of 9 is 46.
         sizes(x, 414, 2, 2);
+    }
+
+    private static void manyTiers() {
+        // Equal frequencies: a division changes the order alone, and the first one is told.
+        BroadcastCarousel x = Check.with("index 0 1;disk 2;disk 2;disk 2;disk 2;" + "item 5 0 0;".repeat(7));
+        sizes(x, 7 * 2 * 28 * 5, 1, 1, 1, 4);
+        // (3, 1, 1) has six rounds of five slots, and gaps of 5: 3 * 6 * 15 * 90 = 24300 of 30, or
+        // 810 a slot; the others have 1035, 1080 and 1485.
+        BroadcastCarousel y = Check.with("index 0 1;disk 6;disk 2;disk 1;"
+                + "item 0 0 0;item 90 0 0;item 90 0 0;item 90 0 0;item 0 0 0;");
+        sizes(y, 24300, 3, 1, 1);
+        // Here (1, 2, 2) has 810 a slot, too: (6 * 6 + 2 * 3 * 21) * 90 = 14580 of 18.
+        y.setFrequency(1, 3);
+        y.setFrequency(2, 2);
+        sizes(y, 14580, 1, 2, 2);
+        BroadcastCarousel z = Check.with("index 0 1;disk 1;disk 2;disk 4;disk 4;"
+                + "item 50 0 0;item 50 0 0;item 50 0 0;item 1 0 0;item 1 0 0;item 1 0 0;item 1 0 0;item 1 0 0;");
+        // Four rounds of five slots: gaps of 5 for the three wanted, of 10 for two, of 20 for three.
+        sizes(z, 3 * 4 * 15 * 50 + 2 * 2 * 55 + 3 * 210, 1, 2, 2, 3);
     }
 
     private static void tiersKeepTheIndex() {
@@ -170,7 +191,18 @@ public final class TiersTest {
         check.due("13: violations()", 0, x::violations);
     }
 
+    private static void repairsToTheFastest() {
+        BroadcastCarousel x = Check.with("index 0 1;disk 6;disk 5;disk 1;item 1 2 1;item 1 2 0;");
+        check.due("13: repair()", 2, x::repair);
+        check.due("13: disk", 0, () -> x.itemValue(0, 1));
+        check.due("13: violations()", 1, x::violations);
+    }
+
     private static void bestDisks() {
+        BroadcastCarousel all = Check.with("index 0 1;disk 1;disk 2;" + "item 1 0 1;".repeat(16));
+        check.due("39: all violate their bounds", 0, () -> all.bestDisk(3));
+        all.moveItem(3, 1);
+        check.due("39: all violate their bounds", 0, () -> all.bestDisk(3));
         BroadcastCarousel x = Check.with("index 0 1;disk 1;disk 2;disk 4;disk 2;item 1 0 2;item 1 0 0;item 1 0 0;");
         check.due("39: bestDisk(0)", 1, () -> x.bestDisk(0));
         check.due("39: it changes nothing", 0, () -> x.itemValue(0, 1));
