@@ -67,9 +67,8 @@ public final class ProgramTest {
         check.due("12: disk", 2, () -> x.itemValue(0, 1));
         check.due("12: slotAt(1)", 1, () -> x.slotAt(1));
         check.due("12: itemsOf(2)", 25, () -> x.itemsOf(2));
-        // The length of segments is kept, though there is none: bestSegments uses it.
-        x.setIndex(0, 3);
-        check.due("11: setIndex", 20 - 9, () -> x.setIndex(1, 3));
+        // 0 3 and 4 - on the disk 2, 1 2 on the disk 1: two rounds of four slots, and a segment.
+        check.due("11: setIndex", 11, () -> x.setIndex(1, 3));
     }
 
     private static void slots() {

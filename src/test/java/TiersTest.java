@@ -203,6 +203,9 @@ public final class TiersTest {
         check.due("39: all violate their bounds", 0, () -> all.bestDisk(3));
         all.moveItem(3, 1);
         check.due("39: all violate their bounds", 0, () -> all.bestDisk(3));
+        // Rounds of nine slots with item 3 in each: it alone keeps its bound.
+        all.setBound(3, 9);
+        check.due("39: all but one violate their bounds", 1, () -> all.bestDisk(3));
         BroadcastCarousel x = Check.with("index 0 1;disk 1;disk 2;disk 4;disk 2;item 1 0 2;item 1 0 0;item 1 0 0;");
         check.due("39: bestDisk(0)", 1, () -> x.bestDisk(0));
         check.due("39: it changes nothing", 0, () -> x.itemValue(0, 1));
