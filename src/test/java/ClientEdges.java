@@ -308,12 +308,21 @@ final class ClientEdges {
         e.due(x, "soonest(0, 47)", 5);
         e.due(x, "soonest(0, 15)", 0);
         e.due(x, "soonest(1, 63)", 0);
+        // -3 0 1 2: at the slot of 1 the next slot has the item 2, but behind the segment 0 is first.
+        BroadcastCarousel y = Check.with("index 1 1;disk 1;item 1 0 0;item 1 0 0;item 1 0 0;client 2 lru;");
+        Calls.make(y, "think(0, 2)");
+        e.due(y, "soonest(0, 7)", 1);
+        e.due(y, "soonest(0, 5)", 0);
         e.promise(45, "Returns number of the item; of several the lowest.");
         // Three in the cache, the lowest of which came last.
         Calls.make(x, "request(2, 5); request(2, 4); request(2, 3)");
         e.due(x, "soonest(2, 63)", 3);
         e.due(x, "soonest(2, 48)", 4);
         e.due(x, "soonest(2, 32)", 5);
+        // And the lowest of all.
+        Calls.make(x, "request(1, 1); request(1, 0)");
+        e.due(x, "soonest(1, 63)", 0);
+        e.due(x, "soonest(1, 62)", 1);
     }
 
     private void hints() {
@@ -338,7 +347,13 @@ final class ClientEdges {
         e.due(x, "hint(0)", 5);
         Calls.make(x, "think(0, 3)");
         e.due(x, "hint(0)", 1);
-        // With segments the access time tells, not the next slot: -3 0 1, at the time 1.
+        // -3 0 1 2: at the slot of 1 the next slot has the item 2, but behind the segment 0 is first.
+        BroadcastCarousel z = Check.with("index 1 1;disk 1;item 1 0 0;item 1 0 0;item 1 0 0;client 2 lru;");
+        Calls.make(z, "request(0, 0); request(0, 2); think(0, 2)");
+        e.due(z, "clientValue(0, 0)", 10);
+        e.due(z, "accessTime(0, 10)", 4);
+        e.due(z, "accessTime(2, 10)", 6);
+        e.due(z, "hint(0)", 0);
         BroadcastCarousel y = Check.with("index 1 1;disk 1;item 1 0 0;item 1 0 0;item 1 0 0;client 2 lru;");
         Calls.make(y, "request(0, 1); request(0, 2); think(0, 1)");
         e.due(y, "hint(0)", 1);
@@ -365,6 +380,7 @@ final class ClientEdges {
         Calls.make(x, "think(0, 3)");
         plan(x, 0, 31, 9, 3, 4, 0, 1, 2);
         plan(x, 0, 62, 9, 3, 4, 5, 1, 2);
+        lastOrder();
         // All in the cache: no time passes.
         Calls.make(x, "request(1, 0); request(1, 1); request(1, 2); request(1, 3)");
         plan(x, 1, 15, 4, 0, 1, 2, 3);
@@ -373,6 +389,14 @@ final class ClientEdges {
         Calls.make(x, "request(2, 1); think(2, 4)");
         plan(x, 2, 3, 7, 1, 0);
         plan(x, 2, 2, 6, 1);
+    }
+
+    private void lastOrder() {
+        // 0 2 1 6 5 4 3 6, from the time 4 on: the last one of 120 orders.
+        BroadcastCarousel x = Check.with(INDEX + "disk 1;disk 1;disk 1;disk 2;item 1 0 0;item 1 2 0;item 1 1 0;"
+                + "item 1 2 0;item 1 1 0;item 1 0 0;item 1 3 0;client 4 lru;");
+        Calls.make(x, "think(0, 4)");
+        plan(x, 0, 62, 11, 5, 4, 3, 2, 1);
     }
 
     private void planItems() {

@@ -29,6 +29,7 @@ final class TextEdges {
         leastCode();
         positions();
         wrongTokens();
+        everyLetter();
         endOfText();
         wrongNumbers();
         tooMany();
@@ -313,6 +314,23 @@ final class TextEdges {
         String all = joined(right, right.length);
         for (String other : new String[] {"index", "disk", "item", "lru", "q", "1", ";", "!", "00000"}) {
             e.wrong(all + "  " + other, 1, all.length() + 2);
+        }
+    }
+
+    private void everyLetter() {
+        e.part(2, "1: a token that cannot stand there, at its first byte");
+        String[] right = {"index", "0", "1", ";", "disk", "1", ";", "item", "5", "0", "0", ";", "client", "1", "lru", ";",
+            "client", "1", "lfu", ";", "client", "1", "pix", ";"};
+        e.loads(joined(right, right.length), 1);
+        for (int n = 0; n < right.length; n++) {
+            for (int letter = 0; letter < right[n].length() && Character.isLetter(right[n].charAt(0)); letter++) {
+                String[] tokens = right.clone();
+                tokens[n] = right[n].substring(0, letter) + "q" + right[n].substring(letter + 1);
+                int position = joined(right, n).length() + (n > 0 ? 1 : 0);
+                e.wrong(joined(tokens, tokens.length), 1, position);
+                tokens[n] = right[n].substring(0, letter) + right[n].substring(letter + 1);
+                e.wrong(joined(tokens, tokens.length), 1, position);
+            }
         }
     }
 

@@ -20,6 +20,8 @@ final class TierEdges {
         diskRanking();
         divisions();
         bestDivision();
+        lastDivision();
+        greatProducts();
         exactly();
         lexicographically();
         applying();
@@ -176,12 +178,79 @@ final class TierEdges {
         // (1, 3) is 0 1 0 2 0 3: 9 * 9 + 21 * 11 = 312 of 6 slots, or 52; (2, 2) is 0 1 2 0 1 3 0 1 -:
         // 18 * 18 + 45 * 2 = 414 of 9 slots, or 46. The greater weight is the better one.
         sizes(Check.with(INDEX + "disk 3;disk 1;item 9 0 0;item 9 0 0;item 1 0 0;item 1 0 0;"), 414, 2, 2);
+        // (3, 1, 1), behind all that begin with 1 and 2: six rounds of five slots with gaps of 5,
+        // 3 * 6 * 15 * 90 = 24300 of 30 slots, or 810; the others have 1035, 1080 and 1485.
+        sizes(Check.with(INDEX + "disk 6;disk 2;disk 1;item 0 0 0;item 90 0 0;item 90 0 0;item 90 0 0;item 0 0 0;"),
+                24300, 3, 1, 1);
+        // Four rounds of five slots: gaps of 5 for the three wanted, of 10 for two, of 20 for three.
+        sizes(Check.with(INDEX + "disk 1;disk 2;disk 4;disk 4;item 50 0 0;item 50 0 0;item 50 0 0;"
+                + "item 1 0 0;".repeat(5)), 3 * 4 * 15 * 50 + 2 * 2 * 55 + 3 * 210, 1, 2, 2, 3);
         e.promise(37, "Returns the weight of the program with factor 0 by the best division.");
         BroadcastCarousel x = Check.with(INDEX + "disk 3;disk 1;item 9 0 0;item 9 0 0;item 1 0 0;item 1 0 0;");
         e.due(x, "tierWeight(2)", 414);
         e.due(x, "applyTiers(2)", 2);
         e.due(x, "weight(0)", 414);
         e.due(x, "cycle()", 9);
+    }
+
+    private void lastDivision() {
+        e.part(7, "to k disks, to each at least one.");
+        // Six rounds of sixteen slots, with thirteen items in each: the last one of 455 divisions.
+        String items = "item 99 0 0;".repeat(13) + "item 0 0 0;".repeat(3);
+        BroadcastCarousel x = Check.with(INDEX + "disk 6;disk 1;disk 1;disk 1;" + items);
+        sizes(x, 13 * 6 * 136 * 99, 13, 1, 1, 1);
+        e.due(x, "applyTiers(4)", 3);
+        e.due(x, "itemsOf(3)", 32768);
+    }
+
+    private void greatProducts() {
+        e.part(1, "products are computed without overflow");
+        // The weights are some 70 million, the cycles some 300 slots.
+        for (String disks : new String[] {"3 4 5 6", "6 5 4 1", "2 3 5 4"}) {
+            String text = INDEX;
+            for (String frequency : disks.split(" ")) {
+                text += "disk " + frequency + ";";
+            }
+            for (int item = 0; item < 16; item++) {
+                text += "item " + (99 - item % 5) + " 0 0;";
+            }
+            for (int k = 2; k <= 4; k++) {
+                int[] best = bestByWeights(text, k);
+                for (int tier = 0; tier < k; tier++) {
+                    e.due(Check.with(text), "tierSize(" + k + ", " + tier + ")", best[tier]);
+                }
+            }
+        }
+    }
+
+    /** Tries all divisions by moving the items, and compares by numbers without an end. */
+    private static int[] bestByWeights(String text, int k) {
+        BroadcastCarousel x = Check.with(text);
+        int[] best = new int[k];
+        java.math.BigInteger leastWeight = null;
+        java.math.BigInteger leastCycle = null;
+        for (int code = 0; code < 1 << 15; code++) {
+            // A bit stands for the beginning of the next tier.
+            if (Integer.bitCount(code) == k - 1) {
+                int[] sizes = new int[k];
+                int tier = 0;
+                for (int place = 0; place < 16; place++) {
+                    tier += place > 0 ? code >> (15 - place) & 1 : 0;
+                    sizes[tier]++;
+                    x.moveItem(x.itemRank(place), x.diskRank(tier));
+                }
+                java.math.BigInteger weight = java.math.BigInteger.valueOf(x.weight(0));
+                java.math.BigInteger cycle = java.math.BigInteger.valueOf(x.cycle());
+                int order = leastWeight == null ? -1
+                        : weight.multiply(leastCycle).compareTo(leastWeight.multiply(cycle));
+                if (order < 0 || order == 0 && java.util.Arrays.compare(sizes, best) < 0) {
+                    best = sizes;
+                    leastWeight = weight;
+                    leastCycle = cycle;
+                }
+            }
+        }
+        return best;
     }
 
     private void exactly() {
@@ -270,6 +339,11 @@ final class TierEdges {
         e.due(x, "bestDisk(0)", 1);
         e.due(Check.with(INDEX + "disk 1;item 1 0 1;item 1 0 1;"), "bestDisk(1)", 0);
         e.due(Check.with(INDEX + "disk 1;disk 2;disk 3;disk 4;item 1 0 0;item 1 0 0;item 1 3 2;"), "bestDisk(2)", 1);
+        // Sixteen violate their bounds if 3 stays, fifteen if it recurs in every round of nine slots.
+        BroadcastCarousel all = Check.with(INDEX + "disk 1;disk 2;" + "item 1 0 1;".repeat(3) + "item 1 0 9;"
+                + "item 1 0 1;".repeat(12));
+        e.due(all, "violations()", 65535);
+        e.due(all, "bestDisk(3)", 1);
         // The fewest items, not the fewest bounds of the one that is moved.
         BroadcastCarousel y = Check.with(INDEX + "disk 2;disk 1;item 1 0 2;item 1 0 0;item 1 1 0;");
         e.due(y, "bestDisk(1)", 1);
