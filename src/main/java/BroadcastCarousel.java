@@ -819,7 +819,7 @@ public final class BroadcastCarousel {
             return dataSlot + before * length;
         }
 
-        int inCycle(int time) {
+        private int inCycle(int time) {
             return cycle > 0 ? Math.floorMod(time, cycle) : 0;
         }
 
@@ -889,10 +889,10 @@ public final class BroadcastCarousel {
 
         /** The tuning time. */
         int listeningFor(int item, int time) {
-            if (segments == 0) {
-                return waitFor(item, time);
-            }
             int slot = inCycle(time);
+            if (segments == 0) {
+                return firstFrom(item, slot) - slot + 1;
+            }
             if (isOnAir(item, slot)) {
                 return 1;
             }
@@ -901,7 +901,7 @@ public final class BroadcastCarousel {
 
         int widestGap(int item) {
             int widest = 0;
-            int previous = times[item][lastOf(item)] - cycle;
+            int previous = lastTime(item) - cycle;
             for (int n = 0; n < slots[item]; n++) {
                 widest = Math.max(widest, times[item][n] - previous);
                 previous = times[item][n];
@@ -909,8 +909,8 @@ public final class BroadcastCarousel {
             return widest;
         }
 
-        private int lastOf(int item) {
-            return Math.max(0, slots[item] - 1);
+        private int lastTime(int item) {
+            return slots[item] > 0 ? times[item][slots[item] - 1] : 0;
         }
 
         int violators(Settings s) {
@@ -926,10 +926,8 @@ public final class BroadcastCarousel {
         long weigh(Settings s, int factor) {
             long weight = 0;
             for (int item = 0; item < s.items; item++) {
-                long sum = waitSum(item);
-                if (factor > 0) {
-                    sum += (long) factor * listeningSum(item);
-                }
+                int waits = waitSum(item);
+                long sum = waits + (long) factor * listeningSum(item, waits);
                 weight += s.popularity[item] * sum;
             }
             return weight;
@@ -942,7 +940,7 @@ public final class BroadcastCarousel {
 
         private int waitSumByGaps(int item) {
             int sum = 0;
-            int previous = times[item][lastOf(item)] - cycle;
+            int previous = lastTime(item) - cycle;
             for (int n = 0; n < slots[item]; n++) {
                 int gap = times[item][n] - previous;
                 sum += gap * (gap + 1) / 2;
@@ -979,9 +977,10 @@ public final class BroadcastCarousel {
             return sum;
         }
 
-        private int listeningSum(int item) {
+        /** The sum of the tuning times of an item over one cycle; that of its access times is given. */
+        private int listeningSum(int item, int waits) {
             if (segments == 0) {
-                return waitSum(item);
+                return waits;
             }
             int others = cycle - slots[item] - segments;
             return slots[item] + segments * (length + 1) + others * (length + 2);
